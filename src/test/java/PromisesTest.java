@@ -35,6 +35,7 @@ public final class PromisesTest {
         fetch();
         fetchByBreath();
         fetchByHours();
+        fetchByOneThatIsWeak();
         tries();
         triesChangesNothing();
         plan();
@@ -767,6 +768,27 @@ public final class PromisesTest {
         due("equal ones: the least number", y.fetch(1), 0);
         y.pitch(1, 3, 1);
         due("the fewest hours", y.fetch(1), 2);
+    }
+
+    /** The words of fetch tell LENGTH and PACE alone, so that a weak one's hours are not twice as many there. */
+    private static void fetchByOneThatIsWeak() {
+        RopeMountain x = new RopeMountain();
+        x.mountain(3);
+        x.pitch(0, 2, 6);
+        x.climber(0, 0, 3);
+        x.climber(1, 1, 30);
+        x.climber(1, 0, 1);
+        x.team(1, 0, 2);
+        x.wind(3, 199, true);
+        x.run(6);
+        x.high(2);
+        x.run(5);
+        Check.dueOf("0 is stranded", x, 0, 4, 2, 0, 0, NONE, 6, 4);
+        Check.dueOf("1 is not weak, 3 hours below", x, 1, 0, 1, 0, 29, NONE, 6, 5);
+        Check.dueOf("2 is weak, 2 hours below", x, 2, 2, 1, 0, 0, NONE, 7, 4);
+        due("the weak one", x.fetch(0), 2);
+        x.high(1);
+        due("the pitch is high", x.fetch(0), 1);
     }
 
     private static void tries() {
