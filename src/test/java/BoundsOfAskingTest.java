@@ -411,6 +411,24 @@ public final class BoundsOfAskingTest {
             y.climber(i % 4, 2, i < 11 ? 19 : 20);
         }
         due("the last one alone has the breath", y.fetch(0), 11);
+        // Stranded are the twelfth and, at the same camp, none of those with a less number.
+        RopeMountain z = new RopeMountain();
+        z.pitch(0, 1, 6);
+        for (int i = 0; i < 12; i++) {
+            z.climber(0, 0, i == 11 ? 1 : 200);
+        }
+        z.wind(2, 199, true);
+        z.run(30);
+        due("the twelfth is stranded", z.of(11, 0), 4);
+        due("0 is at the top", z.of(0, 1), 2);
+        due("the first one at the same camp", z.fetch(11), 1);
+        z.wind(30, 30, false);
+        z.pitch(1, 1, 1);
+        z.pitch(0, 1, 1);
+        z.run(1);
+        due("0 is on the pitch", z.of(0, 2), 1);
+        z.run(1);
+        due("0 is at the same camp", z.fetch(11), 0);
     }
 
     private static void fetchTakesNobodyOnAPitchHomeOrStranded() {

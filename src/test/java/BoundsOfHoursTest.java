@@ -17,6 +17,7 @@ public final class BoundsOfHoursTest {
         leavesTheFootInTheStartHour();
         widthOfThemBegin();
         downFirstThenUp();
+        downFirstOfTheLastHour();
         theEarlierThenTheLessNumber();
         fromTheLastPitchToTheFirst();
         windStopsBeginning();
@@ -345,6 +346,28 @@ public final class BoundsOfHoursTest {
         for (int c = 0; c < 4; c++) {
             due("places shared: hours to go of " + c, x.of(c, 2), toGo[c]);
         }
+    }
+
+    /** One who comes down in the last hour goes ahead of one that is at the foot since the first. */
+    private static void downFirstOfTheLastHour() {
+        RopeMountain x = new RopeMountain();
+        x.high(2);
+        x.pitch(1, 8, 1);
+        x.climber(0, 0, 50);
+        x.climber(0, 0, 50);
+        x.climber(1, 0, 200);
+        x.team(0, 0, 100);
+        x.wind(11, 198, true);
+        x.wind(191, 191, false);
+        x.run(100);
+        x.run(92);
+        due("0 begins pitch 0 in hour 191", x.of(0, 2), 2);
+        due("2 goes down on pitch 1 since then", x.of(2, 0) * 10 + x.of(2, 2), 28);
+        x.run(7);
+        Check.dueOf("1 is at the foot since hour 0", x, 1, 0, 0, 0, 50, NONE, 0, 0);
+        x.run(1);
+        Check.dueOf("2 goes on down in hour 199", x, 2, 2, 1, 2, 19, 10, 180, NONE);
+        Check.dueOf("1 is at the foot yet", x, 1, 0, 0, 0, 50, NONE, 0, 0);
     }
 
     private static void theEarlierThenTheLessNumber() {

@@ -28,6 +28,7 @@ public final class BoundsOfPlansTest {
         planTakesTheMostSummits();
         planTakesTheFewestStranded();
         planTakesTheFewestWaits();
+        planOfTwelveStrandedByAllStarts();
         planTakesTheLessStart();
         planIsTheBestOfAllRuns();
         Check.end();
@@ -384,6 +385,25 @@ public final class BoundsOfPlansTest {
         due("waits of 4", y.tries(1, 4, 0, 0, 2), 1);
         due("both at the top", y.plan(1), 2);
         dueStarts("the fewest waits, the less start", y, 0);
+    }
+
+    private static void planOfTwelveStrandedByAllStarts() {
+        // The foot is high, and it is calm in hour 2 alone: who starts later is stranded there, without waits.
+        RopeMountain x = new RopeMountain();
+        x.high(0);
+        x.pitch(0, 1, 6);
+        for (int i = 0; i < 12; i++) {
+            x.climber(0, 0, 20);
+        }
+        x.wind(0, 199, true);
+        x.wind(2, 2, false);
+        for (int start = 0; start <= 10; start += 2) {
+            due("start " + start + ": no summits", x.tries(1, start, 0, 0, 0), 0);
+            due("start " + start + ": all stranded", x.tries(1, start, 0, 0, 1), 12);
+            due("start " + start + ": waits", x.tries(1, start, 0, 0, 2), start <= 2 ? 6 * 16 : 0);
+        }
+        due("no summits", x.plan(1), 0);
+        dueStarts("all stranded: the fewest waits", x, 4);
     }
 
     private static void planTakesTheLessStart() {
