@@ -4,6 +4,7 @@ import java.lang.reflect.Field;
 import java.lang.reflect.Method;
 import java.lang.reflect.Modifier;
 import java.util.Arrays;
+import java.util.NoSuchElementException;
 import java.util.Set;
 import java.util.TreeSet;
 
@@ -32,6 +33,8 @@ public final class FaceTest {
     public static void main(String[] args) {
         methods();
         constructorAndFields();
+        onlyOfThrows();
+        classesInside();
         room();
         Check.end();
     }
@@ -65,6 +68,25 @@ public final class FaceTest {
         Check.due("public", Modifier.isPublic(all[0].getModifiers()), true);
         for (Field f : RopeMountain.class.getDeclaredFields()) {
             Check.due(f.getName() + " is private", Modifier.isPrivate(f.getModifiers()), !f.getName().equals("NONE"));
+        }
+    }
+
+    private static void onlyOfThrows() {
+        for (Method m : RopeMountain.class.getDeclaredMethods()) {
+            Class<?>[] declared = m.getExceptionTypes();
+            boolean isOf = m.getName().equals("of");
+            Check.due(m.getName() + " declares exceptions", declared.length, isOf ? 1 : 0);
+            if (isOf && declared.length == 1) {
+                Check.due("of declares " + declared[0], declared[0] == NoSuchElementException.class, true);
+            }
+        }
+    }
+
+    private static void classesInside() {
+        for (Class<?> c : RopeMountain.class.getDeclaredClasses()) {
+            int m = c.getModifiers();
+            Check.due(c.getName() + " is static", Modifier.isStatic(m), true);
+            Check.due(c.getName() + " is seen outside", Modifier.isPublic(m) || Modifier.isProtected(m), false);
         }
     }
 
